@@ -15,6 +15,7 @@ final class CallTest {
         editions();
         keptEditions();
         keptOfEachClass();
+        keptOnceAThread();
         CHECK.end();
     }
 
@@ -267,5 +268,22 @@ final class CallTest {
             }
         }
         CHECK.same("21 fifteen frames, each of another edition", deep.kept(0), 16);
+    }
+
+    private static void keptOnceAThread() {
+        HotEditions desk = new HotEditions();
+        loadDeep(desk);
+        for (int t = 0; t < 3; t++) {
+            desk.start(t, 0, 30);
+            desk.step(t, 4);
+            desk.repeat(0);
+            CHECK.same("21 five frames of one edition a thread", desk.kept(0), t + 2);
+        }
+        for (int t = 0; t < 3; t++) {
+            for (int i = 0; i < 10; i++) {
+                desk.step(t, 100);
+            }
+            CHECK.same("21 each ends", desk.kept(0), t == 2 ? 1 : 3 - t);
+        }
     }
 }

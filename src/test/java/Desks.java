@@ -27,6 +27,24 @@ final class Desks {
         desk.code(0, 100, 0);
     }
 
+    /** Every list is full; each of the methods 10 to 13 adds 1, 2, 4, 8, 16 and 32. */
+    static void draftFull(HotEditions desk, int name, int lastInterface) {
+        desk.blank();
+        desk.set(1, name);
+        desk.implement(1);
+        desk.implement(2);
+        desk.implement(lastInterface);
+        for (int i = 0; i < 4; i++) {
+            desk.field(i, i, i);
+        }
+        for (int m = 10; m < 14; m++) {
+            desk.method(m, m);
+            for (int i = 0; i < 6; i++) {
+                desk.code(0, 1 << i, 0);
+            }
+        }
+    }
+
     /** A class with one method, 10, that adds a number. */
     static int loadPlain(HotEditions desk, int name, int above, int number) {
         desk.blank();

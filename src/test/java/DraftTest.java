@@ -96,8 +96,8 @@ final class DraftTest {
         desk.choose(1);
         desk.code(0, 1000, 0);
         Desks.swapDraft(desk, 0);
-        desk.blank();
         desk.copy(0);
+        CHECK.no("3 no method is chosen any more", desk.code(0, 1, 0));
         Desks.swapDraft(desk, 0);
         CHECK.same("3 copy of a later edition", Desks.run(desk, 0, 0, 10), 1012);
     }

@@ -81,6 +81,11 @@ final class LoadTest {
             desk.code(0, 0, 0);
             desk.code(op, 0, 1);
             CHECK.same("10 op " + op, desk.load(), 2);
+            desk.blank();
+            desk.method(1, 0);
+            desk.code(op, 0, 1);
+            desk.method(2, 0);
+            CHECK.same("10 op " + op + " of the first", desk.load(), 2);
         }
     }
 
@@ -130,6 +135,11 @@ final class LoadTest {
         CHECK.same("10 no class", loadCaller(desk, 0, 6, 20), 4);
         CHECK.same("10 NONE is no class", loadCaller(desk, 0, -1, 20), 4);
         CHECK.same("10 no such method of its own", loadCaller(desk, 0, 0, 10), 4);
+        desk.blank();
+        desk.method(20, 0);
+        desk.code(1, 0, 19);
+        desk.method(21, 0);
+        CHECK.same("10 a call of the first method", desk.load(), 4);
         CHECK.same("10 a later method of its own", loadCaller(desk, 0, 0, 21), 0);
         CHECK.same("10 its own name, that is no class", loadCaller(desk, 7, 7, 20), 5);
         CHECK.same("10 method of another class", loadCaller(desk, 1, 0, 20), 0);

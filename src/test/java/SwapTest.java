@@ -11,6 +11,7 @@ final class SwapTest {
         ruleOrder();
         anyOrder();
         formatMayChange();
+        fullDefinitions();
         allOrNone();
         firstBrokenInOrder();
         calledMethodsAreThoseOfCurrentEditions();
@@ -248,6 +249,22 @@ final class SwapTest {
         desk.set(0, 9);
         CHECK.same("14 FORMAT may change", Desks.swapDraft(desk, 0), 0);
         CHECK.same("14 edition", desk.edition(0), 2);
+    }
+
+    private static void fullDefinitions() {
+        HotEditions desk = new HotEditions();
+        Desks.draftFull(desk, 0, 3);
+        desk.load();
+        Desks.draftFull(desk, 0, 4);
+        CHECK.same("14 full, another interface", Desks.swapDraft(desk, 0), 6);
+        desk.copy(0);
+        desk.choose(3);
+        desk.code(0, 9, 0);
+        CHECK.same("14 full", Desks.swapDraft(desk, 0), 0);
+        CHECK.same("14 full, the code that stays", Desks.run(desk, 0, 0, 12), 63);
+        CHECK.same("14 full, the new code", Desks.run(desk, 0, 0, 13), 9);
+        CHECK.same("15 full", desk.repeat(0), 0);
+        CHECK.same("15 full", desk.edition(0), 3);
     }
 
     private static void allOrNone() {

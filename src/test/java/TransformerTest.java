@@ -15,6 +15,7 @@ final class TransformerTest {
         targetNotName();
         orderByNumber();
         repeatersComeLast();
+        fullDefinitions();
         CHECK.end();
     }
 
@@ -182,5 +183,18 @@ final class TransformerTest {
         desk.transformer(3, 77, 0, false);
         Desks.loadPlain(desk, 0, -1, 5);
         CHECK.same("11 one that can repeat goes last", Desks.run(desk, 0, 0, 77), 5);
+    }
+
+    private static void fullDefinitions() {
+        int[] sums = {63, 63 + 600, 63, 0, 63};
+        for (int kind = 0; kind <= 4; kind++) {
+            HotEditions desk = new HotEditions();
+            desk.transformer(kind, kind == 1 ? 100 : kind == 3 ? 13 : 10, 0, true);
+            Desks.draftFull(desk, 0, 3);
+            CHECK.same("11 a full one", desk.load(), 0);
+            for (int m = 10; m < 14; m++) {
+                CHECK.same("11 a full one, kind " + kind, Desks.run(desk, 0, 0, m), sums[kind]);
+            }
+        }
     }
 }
