@@ -1,29 +1,42 @@
-/** Counts the answers that are not the ones that are due, and prints each. */
+/** Holds the answers of one test to those that are due, and prints each that is not. */
 final class Check {
-    private int wrong = 0;
+    private final String test;
     private int made = 0;
+    private int wrong = 0;
 
-    void same(String what, int got, int want) {
+    Check(String test) {
+        this.test = test;
+    }
+
+    void same(String what, Object got, Object want) {
         made++;
-        if (got != want) {
-            wrong++;
-            System.out.println(what + ": answered " + got + ", due is " + want);
+        if (!got.equals(want)) {
+            wrong(what + " answered " + got + ", due is " + want);
         }
     }
 
     void yes(String what, boolean got) {
-        same(what, got ? 1 : 0, 1);
+        same(what, got, true);
     }
 
     void no(String what, boolean got) {
-        same(what, got ? 1 : 0, 0);
+        same(what, got, false);
     }
 
-    /** Ends the program with exit code 1 if an answer was wrong. */
-    void end() {
-        System.out.println(made + " answers, " + wrong + " wrong");
-        if (wrong != 0) {
-            System.exit(1);
-        }
+    void none(String what, int got) {
+        same(what, got, HotEditions.NONE);
+    }
+
+    void wrong(String what) {
+        wrong++;
+        System.out.println(test + ": " + what);
+    }
+
+    int answersMade() {
+        return made;
+    }
+
+    int answersWrong() {
+        return wrong;
     }
 }

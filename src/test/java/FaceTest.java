@@ -7,7 +7,7 @@ import java.util.TreeSet;
 
 /** The public face of the document, and nothing beside it that another class could see. */
 final class FaceTest {
-    private static final Check CHECK = new Check();
+    private static final Class<HotEditions> FACE = HotEditions.class;
 
     private static final String[] METHODS = {
         "void blank()", "boolean copy(int)", "boolean set(int,int)", "boolean implement(int)",
@@ -19,39 +19,65 @@ final class FaceTest {
     };
 
     public static void main(String[] args) {
-        Class<HotEditions> face = HotEditions.class;
-        CHECK.yes("public", Modifier.isPublic(face.getModifiers()));
-        CHECK.yes("final", Modifier.isFinal(face.getModifiers()));
-        methods(face);
-        fields(face);
-        Constructor<?>[] constructors = face.getDeclaredConstructors();
-        CHECK.same("constructors", constructors.length, 1);
-        CHECK.yes("public constructor", Modifier.isPublic(constructors[0].getModifiers()));
-        CHECK.same("its parameters", constructors[0].getParameterCount(), 0);
-        for (Class<?> inside : face.getDeclaredClasses()) {
-            CHECK.yes(inside + " is static", Modifier.isStatic(inside.getModifiers()));
-            CHECK.no(inside + " is public", Modifier.isPublic(inside.getModifiers()));
-        }
-        CHECK.end();
+        Cases.run(FaceTest.class);
     }
 
-    private static void methods(Class<?> face) {
-        TreeSet<String> visible = new TreeSet<>();
-        TreeSet<String> publicNames = new TreeSet<>();
-        for (Method method : face.getDeclaredMethods()) {
-            if (Modifier.isPublic(method.getModifiers())) {
-                publicNames.add(method.getName());
-            }
+    static void classIsPublicAndFinal(Check check) {
+        check.yes("public", Modifier.isPublic(FACE.getModifiers()));
+        check.yes("final", Modifier.isFinal(FACE.getModifiers()));
+    }
+
+    static void oneConstructor(Check check) {
+        Constructor<?>[] constructors = FACE.getDeclaredConstructors();
+        check.same("constructors", constructors.length, 1);
+        check.yes("public", Modifier.isPublic(constructors[0].getModifiers()));
+        check.same("parameters", constructors[0].getParameterCount(), 0);
+    }
+
+    static void classesInsideAreHidden(Check check) {
+        for (Class<?> inside : FACE.getDeclaredClasses()) {
+            check.yes(inside + " is static", Modifier.isStatic(inside.getModifiers()));
+            check.no(inside + " is public", Modifier.isPublic(inside.getModifiers()));
         }
-        for (Method method : face.getDeclaredMethods()) {
+    }
+
+    static void noneIsMinusOne(Check check) {
+        check.same("NONE", HotEditions.NONE, -1);
+    }
+
+    static void visibleMethodsAreThoseOfTheDocument(Check check) {
+        TreeSet<String> visible = new TreeSet<>();
+        for (Method method : FACE.getDeclaredMethods()) {
             if (!Modifier.isPrivate(method.getModifiers())) {
                 visible.add(text(method));
-            } else {
-                CHECK.no(method + " bears a public name", publicNames.contains(method.getName()));
             }
         }
-        TreeSet<String> due = new TreeSet<>(Arrays.asList(METHODS));
-        CHECK.yes("methods " + visible, visible.equals(due));
+        check.same("methods", visible.toString(), new TreeSet<>(Arrays.asList(METHODS)).toString());
+    }
+
+    static void noPrivateMethodBearsAPublicName(Check check) {
+        TreeSet<String> publicNames = new TreeSet<>();
+        for (String method : METHODS) {
+            publicNames.add(method.substring(method.indexOf(' ') + 1, method.indexOf('(')));
+        }
+        for (Method method : FACE.getDeclaredMethods()) {
+            check.yes(method.toString(), Modifier.isPublic(method.getModifiers())
+                    || !publicNames.contains(method.getName()));
+        }
+    }
+
+    static void fieldsArePrivateOrNone(Check check) {
+        for (Field field : FACE.getDeclaredFields()) {
+            check.yes(field.toString(), field.getName().equals("NONE")
+                    || Modifier.isPrivate(field.getModifiers()));
+        }
+    }
+
+    static void staticFieldsAreFinal(Check check) {
+        for (Field field : FACE.getDeclaredFields()) {
+            check.yes(field.toString(), !Modifier.isStatic(field.getModifiers())
+                    || Modifier.isFinal(field.getModifiers()));
+        }
     }
 
     private static String text(Method method) {
@@ -63,16 +89,5 @@ final class FaceTest {
             comma = ",";
         }
         return text.append(')').toString();
-    }
-
-    private static void fields(Class<?> face) {
-        for (Field field : face.getDeclaredFields()) {
-            boolean isNone = field.getName().equals("NONE");
-            CHECK.yes(field + " is private or NONE",
-                    isNone || Modifier.isPrivate(field.getModifiers()));
-            CHECK.yes(field + " is final if it is static",
-                    !Modifier.isStatic(field.getModifiers())
-                            || Modifier.isFinal(field.getModifiers()));
-        }
     }
 }

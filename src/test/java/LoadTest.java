@@ -1,231 +1,323 @@
-/** Promise 10: loading, with the rules 1 to 4. */
+import java.util.function.Consumer;
+
+/** Promise 10: loading, and what the terms say of it. Its rules 1 to 4 are in RulesAloneTest. */
 final class LoadTest {
-    private static final Check CHECK = new Check();
-
     public static void main(String[] args) {
-        ordinary();
-        formats();
-        doubles();
-        ops();
-        wayUp();
-        supers();
-        calledMethods();
-        names();
-        order();
-        draftStays();
-        treated();
-        CHECK.end();
+        Cases.run(LoadTest.class);
     }
 
-    private static void ordinary() {
+    @Says(promise = 10, value = "Loads the draft: 0, or the code of what is broken")
+    static void everyClassCanBeLoaded(Check check) {
         HotEditions desk = new HotEditions();
         for (int c = 0; c < 6; c++) {
-            CHECK.same("10 load", Desks.loadPlain(desk, c, c - 1, 100 + c), 0);
-            CHECK.same("10 edition", desk.edition(c), 1);
+            check.same("load", Desks.loadPlain(desk, c, c - 1, 100 + c), 0);
         }
         for (int c = 0; c < 6; c++) {
-            CHECK.same("10 run", Desks.run(desk, 0, c, 10), 100 + c);
+            check.same("run", Desks.run(desk, 0, c, 10), 100 + c);
         }
     }
 
-    private static void formats() {
-        int[] wrong = {0, 10, -1, Integer.MAX_VALUE, Integer.MIN_VALUE};
-        for (int format : wrong) {
-            HotEditions desk = new HotEditions();
-            desk.set(0, format);
-            CHECK.same("10 format " + format, desk.load(), 1);
-            CHECK.same("10 a refused load loads nothing", desk.edition(0), 0);
-        }
-        for (int format = 1; format <= 9; format++) {
-            HotEditions desk = new HotEditions();
-            desk.set(0, format);
-            CHECK.same("10 format " + format, desk.load(), 0);
-        }
-    }
-
-    private static void doubles() {
-        for (int first = 0; first < 4; first++) {
-            for (int second = first + 1; second < 4; second++) {
-                HotEditions desk = new HotEditions();
-                for (int i = 0; i < 3; i++) {
-                    desk.implement(i == second ? first : i);
-                }
-                CHECK.same("10 equal interfaces", desk.load(), second < 3 ? 2 : 0);
-                desk = new HotEditions();
-                for (int i = 0; i < 4; i++) {
-                    desk.field(i == second ? first : i, 10 + i, 20 + i);
-                }
-                CHECK.same("10 fields of one name", desk.load(), 2);
-                desk = new HotEditions();
-                for (int i = 0; i < 4; i++) {
-                    desk.method(i == second ? first : i, 10 + i);
-                }
-                CHECK.same("10 methods of one name", desk.load(), 2);
-            }
-        }
+    @Says(promise = 10, value = "Loads the draft: 0, or the code of what is broken")
+    static void blankDraftCanBeLoaded(Check check) {
         HotEditions desk = new HotEditions();
-        desk.implement(1);
-        desk.field(1, 1, 1);
-        desk.field(2, 1, 1);
-        desk.method(1, 1);
-        desk.method(2, 1);
-        CHECK.same("10 equal numbers of other sorts", desk.load(), 0);
+        check.same("load", desk.load(), 0);
+        check.same("edition", desk.edition(0), 1);
+        check.no("it has no method", desk.start(0, 0, 0));
     }
 
-    private static void ops() {
-        int[] wrong = {2, -1, Integer.MAX_VALUE, Integer.MIN_VALUE};
-        for (int op : wrong) {
-            HotEditions desk = new HotEditions();
-            desk.method(1, 0);
-            desk.method(2, 0);
-            desk.code(0, 0, 0);
-            desk.code(op, 0, 1);
-            CHECK.same("10 op " + op, desk.load(), 2);
-            desk.blank();
-            desk.method(1, 0);
-            desk.code(op, 0, 1);
-            desk.method(2, 0);
-            CHECK.same("10 op " + op + " of the first", desk.load(), 2);
+    @Says(promise = 10, value = "Loads the draft: 0, or the code of what is broken")
+    static void fullDraftCanBeLoaded(Check check) {
+        HotEditions desk = new HotEditions();
+        Desks.draftFull(desk, 5, 3);
+        check.same("load", desk.load(), 0);
+        for (int m = 10; m < 14; m++) {
+            check.same("run", Desks.run(desk, 0, 5, m), 63);
         }
     }
 
-    private static void wayUp() {
-        HotEditions desk = new HotEditions();
-        CHECK.same("10 SUPER is NAME", Desks.loadPlain(desk, 2, 2, 0), 3);
-        CHECK.same("10 SUPER is NAME, no class", Desks.loadPlain(desk, 9, 9, 0), 3);
-        CHECK.same("10 NONE counts as a number", Desks.loadPlain(desk, -1, -1, 0), 3);
-        CHECK.same("10 the way ends at once", Desks.loadPlain(desk, -1, 5, 0), 4);
-        Desks.loadPlain(desk, 0, -1, 0);
-        Desks.loadPlain(desk, 1, 0, 0);
-        Desks.loadPlain(desk, 2, 1, 0);
-        CHECK.same("10 two ups", Desks.loadPlain(desk, 1, 2, 0), 3);
-        CHECK.same("10 three ups", Desks.loadPlain(desk, 0, 2, 0), 3);
-        CHECK.same("10 NONE is met at the end", Desks.loadPlain(desk, -1, 2, 0), 3);
-        CHECK.same("10 not met", Desks.loadPlain(desk, 3, 2, 0), 0);
-        Desks.loadPlain(desk, 4, 3, 0);
-        Desks.loadPlain(desk, 5, 4, 0);
-        CHECK.same("10 six ups", Desks.loadPlain(desk, -1, 5, 0), 3);
-        CHECK.same("10 six ups", Desks.loadPlain(desk, 0, 5, 0), 3);
-        CHECK.same("10 six ups, not met", Desks.loadPlain(desk, 6, 5, 0), 5);
+    /** The draft of a busy desk could be loaded as class 5 if it were not broken. */
+    private static void brokenLoad(Check check, int code, Consumer<HotEditions> breaking) {
+        HotEditions plain = Desks.busy();
+        breaking.accept(plain);
+        HotEditions loading = Desks.busy();
+        breaking.accept(loading);
+        check.same("load", loading.load(), code);
+        check.same("all that can be seen", Shown.of(loading), Shown.of(plain));
     }
 
-    private static void supers() {
-        HotEditions desk = new HotEditions();
-        int[] wrong = {1, 5, 6, -2, Integer.MAX_VALUE, Integer.MIN_VALUE};
-        for (int above : wrong) {
-            CHECK.same("10 SUPER " + above, Desks.loadPlain(desk, 0, above, 0), 4);
+    @Says(promise = 10, value = "or the code of what is broken")
+    static void brokenByRuleOne(Check check) {
+        brokenLoad(check, 1, desk -> desk.set(0, 0));
+    }
+
+    @Says(promise = 10, value = "or the code of what is broken")
+    static void brokenByRuleTwo(Check check) {
+        brokenLoad(check, 2, desk -> desk.implement(4));
+    }
+
+    @Says(promise = 10, value = "or the code of what is broken")
+    static void brokenByRuleThree(Check check) {
+        brokenLoad(check, 3, desk -> desk.set(2, 5));
+    }
+
+    @Says(promise = 10, value = "or the code of what is broken")
+    static void brokenByRuleFour(Check check) {
+        brokenLoad(check, 4, desk -> desk.set(2, 4));
+    }
+
+    @Says(promise = 10, value = "or the code of what is broken")
+    static void brokenByItsName(Check check) {
+        brokenLoad(check, 5, desk -> {
+            desk.set(1, 6);
+            desk.choose(0);
+        });
+    }
+
+    @Says(promise = 10, value = "or the code of what is broken")
+    static void brokenByALoadedClass(Check check) {
+        brokenLoad(check, 13, desk -> {
+            desk.set(1, 3);
+            desk.choose(0);
+        });
+    }
+
+    private static void nameIsNoClass(Check check, int name) {
+        HotEditions desk = Desks.withPlain(1);
+        check.same("load as " + name, Desks.loadPlain(desk, name, 0, 1), 5);
+        for (int c = 1; c < 6; c++) {
+            check.same("edition " + c, desk.edition(c), 0);
         }
-        CHECK.same("10 SUPER NONE", Desks.loadPlain(desk, 1, -1, 0), 0);
-        CHECK.same("10 SUPER is loaded", Desks.loadPlain(desk, 0, 1, 0), 0);
     }
 
-    private static int loadCaller(HotEditions desk, int name, int a, int b) {
+    @Says(promise = Says.TERMS, value = "then 5 is the answer if NAME is not 0 .. 5")
+    static void nameTooLarge(Check check) {
+        nameIsNoClass(check, 6);
+    }
+
+    @Says(promise = Says.TERMS, value = "then 5 is the answer if NAME is not 0 .. 5")
+    static void nameTooSmall(Check check) {
+        nameIsNoClass(check, -2);
+    }
+
+    @Says(promise = Says.TERMS, value = "then 5 is the answer if NAME is not 0 .. 5")
+    static void nameFarOff(Check check) {
+        for (int name : Desks.far()) {
+            nameIsNoClass(check, name);
+        }
+    }
+
+    @Says(promise = Says.TERMS, value = "then tested by the rules 1 to 4")
+    static void nameOfNoneNeverComesAsFarAsFive(Check check) {
+        HotEditions desk = Desks.withPlain(1);
+        check.same("SUPER NONE", Desks.loadPlain(desk, -1, HotEditions.NONE, 0), 3);
+        check.same("SUPER above which NONE is", Desks.loadPlain(desk, -1, 0, 0), 3);
+        check.same("SUPER that is not loaded", Desks.loadPlain(desk, -1, 1, 0), 4);
+    }
+
+    @Says(promise = Says.TERMS, value = "then 13 if that class is loaded")
+    static void loadedAlready(Check check) {
+        HotEditions desk = Desks.withPlain(6);
+        for (int c = 0; c < 6; c++) {
+            check.same("load", Desks.loadPlain(desk, c, HotEditions.NONE, 77), 13);
+            check.same("edition stays", desk.edition(c), 1);
+            check.same("code stays", Desks.run(desk, 0, c, 10), c);
+            check.same("repeat", desk.repeat(c), 0);
+            check.same("original stays", Desks.run(desk, 0, c, 10), c);
+        }
+    }
+
+    @Says(promise = Says.TERMS, value = "then 13 if that class is loaded")
+    static void loadOfTheSameDraftTwice(Check check) {
+        HotEditions desk = new HotEditions();
+        check.same("first", desk.load(), 0);
+        check.same("second", desk.load(), 13);
+    }
+
+    @Says(promise = Says.TERMS, value = "and then tested by the rules 1 to 4")
+    static void laterRulesAreNotAsked(Check check) {
+        HotEditions desk = Desks.withCounter();
         desk.blank();
-        desk.set(1, name);
-        desk.method(20, 0);
-        desk.method(21, 0);
-        desk.code(0, 50, 99);
-        desk.code(1, a, b);
-        return desk.load();
+        desk.set(2, HotEditions.NONE);
+        desk.set(3, 9);
+        desk.set(4, 9);
+        check.same("another definition of class 0", desk.load(), 13);
     }
 
-    private static void calledMethods() {
-        HotEditions desk = new HotEditions();
-        CHECK.same("10 class is not loaded", loadCaller(desk, 0, 1, 20), 4);
-        CHECK.same("10 no class", loadCaller(desk, 0, 6, 20), 4);
-        CHECK.same("10 NONE is no class", loadCaller(desk, 0, -1, 20), 4);
-        CHECK.same("10 no such method of its own", loadCaller(desk, 0, 0, 10), 4);
-        desk.blank();
-        desk.method(20, 0);
-        desk.code(1, 0, 19);
-        desk.method(21, 0);
-        CHECK.same("10 a call of the first method", desk.load(), 4);
-        CHECK.same("10 a later method of its own", loadCaller(desk, 0, 0, 21), 0);
-        CHECK.same("10 its own name, that is no class", loadCaller(desk, 7, 7, 20), 5);
-        CHECK.same("10 method of another class", loadCaller(desk, 1, 0, 20), 0);
-        CHECK.same("10 no such method there", loadCaller(desk, 2, 0, 22), 4);
-        Desks.loadPlain(desk, 3, -1, 0);
-        CHECK.same("10 its own methods, not the loaded class's", loadCaller(desk, 3, 3, 10), 4);
-        CHECK.same("10 its own methods, not the loaded class's", loadCaller(desk, 3, 3, 20), 13);
-    }
-
-    private static void names() {
-        HotEditions desk = new HotEditions();
-        int[] wrong = {6, -2, Integer.MAX_VALUE, Integer.MIN_VALUE};
-        for (int name : wrong) {
-            CHECK.same("10 NAME " + name, Desks.loadPlain(desk, name, -1, 0), 5);
-        }
-        CHECK.same("10 first", Desks.loadPlain(desk, 5, -1, 1), 0);
-        CHECK.same("10 loaded already", Desks.loadPlain(desk, 5, -1, 2), 13);
-        CHECK.same("10 edition stays", desk.edition(5), 1);
-        CHECK.same("10 code stays", Desks.run(desk, 0, 5, 10), 1);
-    }
-
-    private static void order() {
-        HotEditions desk = new HotEditions();
-        Desks.loadPlain(desk, 0, -1, 0);
+    @Says(promise = Says.TERMS, value = "The code of the first rule that is broken is the answer")
+    static void answersInTheirOrder(Check check) {
+        HotEditions desk = Desks.withPlain(1);
         desk.blank();
         desk.set(0, 0);
-        desk.set(2, 0);
+        desk.set(1, 7);
+        desk.set(2, 7);
         desk.implement(1);
         desk.implement(1);
         desk.method(1, 0);
         desk.code(1, 4, 4);
-        CHECK.same("10 rule 1 before 2", desk.load(), 1);
+        check.same("1 before 2", desk.load(), 1);
         desk.set(0, 9);
-        CHECK.same("10 rule 2 before 3", desk.load(), 2);
+        check.same("2 before 3", desk.load(), 2);
         desk.blank();
-        desk.set(2, 0);
+        desk.set(1, 7);
+        desk.set(2, 7);
         desk.method(1, 0);
         desk.code(1, 4, 4);
-        CHECK.same("10 rule 3 before 4", desk.load(), 3);
-        desk.set(1, 6);
-        CHECK.same("10 rule 4 before 5", desk.load(), 4);
+        check.same("3 before 4", desk.load(), 3);
+        desk.set(2, 0);
+        check.same("4 before 5", desk.load(), 4);
+        desk.choose(0);
+        check.same("5", desk.load(), 5);
         desk.set(1, 0);
-        desk.set(2, 3);
-        CHECK.same("10 rule 4 before 13", desk.load(), 4);
+        check.same("3 before 13", desk.load(), 3);
+        desk.set(2, 5);
+        check.same("4 before 13", desk.load(), 4);
     }
 
-    private static void draftStays() {
-        HotEditions desk = new HotEditions();
-        desk.transformer(1, 1000, -1, false);
-        desk.transformer(1, 1000, -1, true);
-        desk.method(10, 0);
-        desk.code(0, 1, 0);
-        CHECK.same("10 load", desk.load(), 0);
-        CHECK.yes("10 the method stays chosen", desk.code(0, 2, 0));
-        CHECK.same("10 the draft is a row of its own", Desks.run(desk, 0, 0, 10), 2001);
-        desk.set(1, 1);
-        CHECK.same("10 load again", desk.load(), 0);
-        CHECK.same("10 the draft was not treated", Desks.run(desk, 0, 1, 10), 4003);
-        desk.set(0, 0);
-        CHECK.same("10 refused", desk.load(), 1);
-        desk.set(0, 1);
-        desk.set(1, 2);
-        CHECK.yes("10 the method stays chosen", desk.code(0, 4, 0));
-        CHECK.same("10 load after a refused one", desk.load(), 0);
-        CHECK.same("10 the draft stays", Desks.run(desk, 0, 2, 10), 6007);
-    }
-
-    private static void treated() {
+    @Says(promise = Says.TERMS, value = "a copy of the draft is treated for class NAME")
+    static void treatedBeforeItIsTested(Check check) {
         HotEditions desk = new HotEditions();
         desk.transformer(4, 11, 0, true);
         desk.method(10, 0);
         desk.method(11, 0);
-        CHECK.same("10 the treated form is tested", desk.load(), 2);
-        desk.set(1, 1);
-        CHECK.same("10 by those for its class", desk.load(), 0);
-        desk.remove(0);
-        desk.transformer(4, 11, 9, true);
-        desk.set(1, 7);
-        CHECK.same("10 no class: those for every class", desk.load(), 2);
-        desk.remove(0);
-        desk.transformer(4, 11, 0, true);
-        CHECK.same("10 no class: not those for one class", desk.load(), 5);
-        desk.set(1, 0);
+        check.same("two methods have one name", desk.load(), 2);
         desk.blank();
         desk.method(10, 0);
         desk.code(1, 0, 11);
-        CHECK.same("10 a call is tested behind treating", desk.load(), 0);
+        check.same("the name is there that is called", desk.load(), 0);
+    }
+
+    @Says(promise = Says.TERMS, value = "a copy of the draft is treated for class NAME")
+    static void treatedForItsNameAlone(Check check) {
+        HotEditions desk = new HotEditions();
+        desk.transformer(1, 100, 4, false);
+        desk.transformer(1, 1000, 5, true);
+        Desks.loadPlain(desk, 4, HotEditions.NONE, 1);
+        Desks.loadPlain(desk, 5, HotEditions.NONE, 1);
+        check.same("class 4", Desks.run(desk, 0, 4, 10), 101);
+        check.same("class 5", Desks.run(desk, 0, 5, 10), 1001);
+    }
+
+    /** Two methods come to have one name if the transformer changes the draft. */
+    private static int loadOfNoClass(int only, boolean repeats, int name) {
+        HotEditions desk = new HotEditions();
+        desk.transformer(4, 11, only, repeats);
+        desk.set(1, name);
+        desk.set(2, HotEditions.NONE);
+        desk.method(10, 0);
+        desk.method(11, 0);
+        return desk.load();
+    }
+
+    @Says(promise = Says.TERMS, value = "if that is no class, those for every class alone change it")
+    static void noClassMeetsThoseForEveryClass(Check check) {
+        check.same("can't repeat", loadOfNoClass(HotEditions.NONE, false, 6), 2);
+        check.same("can repeat", loadOfNoClass(HotEditions.NONE, true, 6), 2);
+        check.same("NAME -1", loadOfNoClass(HotEditions.NONE, true, -1), 2);
+        check.same("only is that number", loadOfNoClass(6, true, 6), 2);
+        check.same("only is another number", loadOfNoClass(7, true, 6), 2);
+    }
+
+    @Says(promise = Says.TERMS, value = "if that is no class, those for every class alone change it")
+    static void noClassMeetsNoneForOneClass(Check check) {
+        for (int only = 0; only < 6; only++) {
+            check.same("NAME 6", loadOfNoClass(only, false, 6), 5);
+            check.same("NAME -2", loadOfNoClass(only, true, -2), 5);
+        }
+        check.same("NAME -1", loadOfNoClass(0, true, -1), 3);
+    }
+
+    @Says(promise = Says.TERMS, value = "A class is LOADED or not")
+    static void onlyTheNamedClassIsLoaded(Check check) {
+        for (int name = 0; name < 6; name++) {
+            HotEditions desk = new HotEditions();
+            Desks.loadPlain(desk, name, HotEditions.NONE, 1);
+            for (int c = 0; c < 6; c++) {
+                check.same("copy " + c, desk.copy(c), c == name);
+                check.same("start " + c, desk.start(0, c, 10), c == name);
+            }
+        }
+    }
+
+    @Says(promise = Says.TERMS, value = "edition 1 has the treated definition")
+    static void editionOneIsTreated(Check check) {
+        HotEditions desk = new HotEditions();
+        desk.transformer(1, 10, 0, false);
+        desk.transformer(1, 100, 0, true);
+        Desks.loadPlain(desk, 0, HotEditions.NONE, 1);
+        check.same("edition", desk.edition(0), 1);
+        check.same("run", Desks.run(desk, 0, 0, 10), 111);
+    }
+
+    @Says(promise = Says.TERMS, value = "and the original is the original form")
+    static void originalOfALoadedClass(Check check) {
+        HotEditions desk = new HotEditions();
+        desk.transformer(1, 10, 0, false);
+        desk.transformer(1, 100, 0, true);
+        Desks.loadPlain(desk, 0, HotEditions.NONE, 1);
+        desk.remove(0);
+        desk.remove(1);
+        check.same("repeat", desk.repeat(0), 0);
+        check.same("run", Desks.run(desk, 0, 0, 10), 11);
+    }
+
+    @Says(promise = 10, value = "The draft stays as it is (with the method that is chosen")
+    static void draftStaysBehindLoad(Check check) {
+        HotEditions desk = new HotEditions();
+        desk.transformer(1, 1000, HotEditions.NONE, false);
+        desk.transformer(1, 1000, HotEditions.NONE, true);
+        Desks.loadPlain(desk, 0, HotEditions.NONE, 1);
+        check.yes("the method stays chosen", desk.code(0, 2, 0));
+        desk.set(1, 1);
+        check.same("load again", desk.load(), 0);
+        check.same("the draft was not treated", Desks.run(desk, 0, 1, 10), 4003);
+    }
+
+    @Says(promise = 10, value = "The draft stays as it is (with the method that is chosen")
+    static void noneStaysChosenBehindLoad(Check check) {
+        HotEditions desk = Desks.withPlain(1);
+        desk.copy(0);
+        desk.set(1, 1);
+        desk.load();
+        check.no("code", desk.code(0, 2, 0));
+    }
+
+    @Says(promise = 10, value = "The draft stays as it is (with the method that is chosen")
+    static void draftStaysBehindABrokenLoad(Check check) {
+        HotEditions desk = new HotEditions();
+        Desks.draftCounter(desk, 0);
+        desk.set(0, 0);
+        check.same("load", desk.load(), 1);
+        desk.set(0, 1);
+        check.yes("the method stays chosen", desk.code(0, 2, 0));
+        check.same("load", desk.load(), 0);
+        check.same("run", Desks.run(desk, 0, 0, 10), 114);
+    }
+
+    @Says(promise = Says.TERMS, value = "The DRAFT is the definition that is written")
+    static void writingTheDraftLeavesTheLoadedClass(Check check) {
+        HotEditions desk = Desks.withPlain(1);
+        desk.code(0, 1000, 0);
+        desk.set(3, 5);
+        check.same("code", Desks.run(desk, 0, 0, 10), 0);
+        check.same("original", desk.repeat(0), 0);
+        check.same("code of the original", Desks.run(desk, 0, 0, 10), 0);
+    }
+
+    @Says(promise = 10, value = "so behind queue)")
+    static void draftStaysBehindQueue(Check check) {
+        HotEditions desk = Desks.withPlain(1);
+        Desks.queuePlain(desk, 0, 7);
+        check.yes("the method stays chosen", desk.code(0, 100, 0));
+        desk.set(1, 1);
+        check.same("load", desk.load(), 0);
+        check.same("run", Desks.run(desk, 0, 1, 10), 107);
+    }
+
+    @Says(promise = 10, value = "so behind queue)")
+    static void noneStaysChosenBehindQueue(Check check) {
+        HotEditions desk = Desks.withPlain(1);
+        desk.copy(0);
+        desk.queue(0);
+        check.no("code", desk.code(0, 2, 0));
     }
 }

@@ -6,7 +6,7 @@ import java.util.Set;
 import java.util.TreeMap;
 
 /** The document told a second time, with values that never change and every edition held for ever. */
-final class PlainModel {
+final class PlainModel implements Desk {
     record Instruction(int op, int a, int b) { }
 
     record Field(int name, int type, int flags) { }
@@ -99,12 +99,14 @@ final class PlainModel {
         return List.copyOf(copy);
     }
 
-    void blank() {
+    @Override
+    public void blank() {
         draft = BLANK;
         chosen = null;
     }
 
-    boolean copy(int c) {
+    @Override
+    public boolean copy(int c) {
         if (!classes.containsKey(c)) {
             return false;
         }
@@ -113,7 +115,8 @@ final class PlainModel {
         return true;
     }
 
-    boolean set(int part, int value) {
+    @Override
+    public boolean set(int part, int value) {
         if (part < 0 || part > 4) {
             return false;
         }
@@ -121,7 +124,8 @@ final class PlainModel {
         return true;
     }
 
-    boolean implement(int i) {
+    @Override
+    public boolean implement(int i) {
         if (draft.interfaces().size() == 3) {
             return false;
         }
@@ -130,7 +134,8 @@ final class PlainModel {
         return true;
     }
 
-    boolean field(int name, int type, int flags) {
+    @Override
+    public boolean field(int name, int type, int flags) {
         if (draft.fields().size() == 4) {
             return false;
         }
@@ -139,7 +144,8 @@ final class PlainModel {
         return true;
     }
 
-    boolean method(int name, int flags) {
+    @Override
+    public boolean method(int name, int flags) {
         if (draft.methods().size() == 4) {
             return false;
         }
@@ -154,7 +160,8 @@ final class PlainModel {
                 with(draft.methods(), k, new Method(old.name(), old.flags(), code)));
     }
 
-    boolean choose(int k) {
+    @Override
+    public boolean choose(int k) {
         if (k < 0 || k >= draft.methods().size()) {
             return false;
         }
@@ -163,7 +170,8 @@ final class PlainModel {
         return true;
     }
 
-    boolean code(int op, int a, int b) {
+    @Override
+    public boolean code(int op, int a, int b) {
         if (chosen == null || draft.methods().get(chosen).code().size() == 6) {
             return false;
         }
@@ -171,7 +179,8 @@ final class PlainModel {
         return true;
     }
 
-    int load() {
+    @Override
+    public int load() {
         int c = draft.name();
         Treated treated = treat(draft, c);
         int broken = brokenAlone(treated.form());
@@ -191,7 +200,8 @@ final class PlainModel {
         return 0;
     }
 
-    int transformer(int kind, int value, int only, boolean repeats) {
+    @Override
+    public int transformer(int kind, int value, int only, boolean repeats) {
         for (int k = 0; k < 5 && kind >= 0 && kind <= 4; k++) {
             if (transformers[k] == null) {
                 transformers[k] = new Transformer(kind, value, only, repeats);
@@ -201,7 +211,8 @@ final class PlainModel {
         return -1;
     }
 
-    boolean remove(int k) {
+    @Override
+    public boolean remove(int k) {
         if (k < 0 || k > 4 || transformers[k] == null) {
             return false;
         }
@@ -209,7 +220,8 @@ final class PlainModel {
         return true;
     }
 
-    boolean queue(int c) {
+    @Override
+    public boolean queue(int c) {
         if (!classes.containsKey(c) || batch.size() == 3
                 || batch.stream().anyMatch(q -> q.target() == c)) {
             return false;
@@ -218,7 +230,8 @@ final class PlainModel {
         return true;
     }
 
-    int swap() {
+    @Override
+    public int swap() {
         List<Treated> all = new ArrayList<>();
         List<Queued> taken = List.copyOf(batch);
         batch.clear();
@@ -238,7 +251,8 @@ final class PlainModel {
         return 0;
     }
 
-    int repeat(int c) {
+    @Override
+    public int repeat(int c) {
         if (!classes.containsKey(c)) {
             return -1;
         }
@@ -263,11 +277,13 @@ final class PlainModel {
         return true;
     }
 
-    boolean start(int t, int c, int m) {
+    @Override
+    public boolean start(int t, int c, int m) {
         return t >= 0 && t <= 2 && threads.get(t).isEmpty() && push(t, c, m);
     }
 
-    int step(int t, int n) {
+    @Override
+    public int step(int t, int n) {
         if (t < 0 || t > 2 || n < 0 || n > 100) {
             return -1;
         }
@@ -300,22 +316,26 @@ final class PlainModel {
         }
     }
 
-    int frame(int t, int k) {
+    @Override
+    public int frame(int t, int k) {
         if (t < 0 || t > 2 || k < 0 || k >= threads.get(t).size()) {
             return -1;
         }
         return 8 * threads.get(t).get(k).edition + threads.get(t).get(k).ofClass;
     }
 
-    int result(int t) {
+    @Override
+    public int result(int t) {
         return t < 0 || t > 2 ? 0 : results[t];
     }
 
-    int edition(int c) {
+    @Override
+    public int edition(int c) {
         return classes.containsKey(c) ? classes.get(c).editions.size() : 0;
     }
 
-    int kept(int c) {
+    @Override
+    public int kept(int c) {
         if (!classes.containsKey(c)) {
             return 0;
         }
