@@ -136,20 +136,34 @@ final class RulesBesideTest {
         answer(check, withInterfaces(5, 4), 0);
     }
 
+    /** What the interfaces answer in place of 1, 2 and 3. */
+    private static int swapOfThreeInterfaces(int... three) {
+        HotEditions desk = new HotEditions();
+        desk.implement(1);
+        desk.implement(2);
+        desk.implement(3);
+        desk.load();
+        desk.blank();
+        for (int i : three) {
+            desk.implement(i);
+        }
+        return Desks.swapDraft(desk, 0);
+    }
+
     @Says(promise = Says.TERMS, value = "the interfaces are not, in any order, those of o")
     static void threeInterfacesInEveryOrder(Check check) {
         int[][] orders = {{1, 2, 3}, {1, 3, 2}, {2, 1, 3}, {2, 3, 1}, {3, 1, 2}, {3, 2, 1}};
         for (int[] order : orders) {
-            HotEditions desk = new HotEditions();
-            desk.implement(1);
-            desk.implement(2);
-            desk.implement(3);
-            desk.load();
-            desk.blank();
-            for (int i : order) {
-                desk.implement(i);
-            }
-            check.same("swap", Desks.swapDraft(desk, 0), 0);
+            check.same("swap", swapOfThreeInterfaces(order), 0);
+        }
+    }
+
+    @Says(promise = Says.TERMS, value = "the interfaces are not, in any order, those of o")
+    static void anotherInterfaceOfThree(Check check) {
+        for (int other : new int[] {0, 4, -1}) {
+            check.same("in place of the first", swapOfThreeInterfaces(other, 2, 3), 6);
+            check.same("in place of the second", swapOfThreeInterfaces(1, other, 3), 6);
+            check.same("in place of the last", swapOfThreeInterfaces(1, 2, other), 6);
         }
     }
 
@@ -171,8 +185,10 @@ final class RulesBesideTest {
 
     @Says(promise = Says.TERMS, value = "the interfaces are not, in any order, those of o")
     static void anotherInterface(Check check) {
-        answer(check, withInterfaces(4, 6), 6);
-        answer(check, withInterfaces(6, 5), 6);
+        for (int other : new int[] {0, 6, -1}) {
+            answer(check, withInterfaces(4, other), 6);
+            answer(check, withInterfaces(other, 5), 6);
+        }
     }
 
     @Says(promise = Says.TERMS, value = "the interfaces are not, in any order, those of o")

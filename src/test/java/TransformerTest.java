@@ -226,6 +226,15 @@ final class TransformerTest {
     }
 
     @Says(promise = Says.TERMS, value = "1 the operand a of every instruction of op 0 becomes VALUE more")
+    static void kindOneLeavesAllTheRest(Check check) {
+        for (int value : new int[] {0, 10, 11}) {
+            HotEditions desk = counterBehind(1, value);
+            Desks.draftCounter(desk, 0);
+            check.same("swap", Desks.swapDraft(desk, 0), 0);
+        }
+    }
+
+    @Says(promise = Says.TERMS, value = "1 the operand a of every instruction of op 0 becomes VALUE more")
     static void kindOneLeavesOpOne(Check check) {
         HotEditions desk = new HotEditions();
         desk.transformer(1, 1, 0, false);
@@ -276,13 +285,13 @@ final class TransformerTest {
 
     @Says(promise = Says.TERMS, value = "2 FLAGS becomes VALUE")
     static void kindTwo(Check check) {
-        for (int value : new int[] {8, -1, Integer.MIN_VALUE}) {
+        for (int value : new int[] {8, 10, 11, -1, Integer.MIN_VALUE}) {
             HotEditions desk = counterBehind(2, value);
+            check.same("the code stays", Desks.run(desk, 0, 0, 10), 112);
             Desks.draftCounter(desk, 0);
             check.same("FLAGS 0", Desks.swapDraft(desk, 0), 10);
             desk.set(3, value);
             check.same("FLAGS of that value", Desks.swapDraft(desk, 0), 0);
-            check.same("code", Desks.run(desk, 0, 0, 10), 112);
         }
     }
 
