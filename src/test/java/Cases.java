@@ -53,7 +53,14 @@ final class Cases {
         if (says == null) {
             return test.getName();
         }
-        String section = says.promise() == Says.TERMS ? "Terms" : "Promise " + says.promise();
-        return section + ", " + test.getName() + " (\"" + says.value() + "\")";
+        return section(says.promise()) + ", " + test.getName() + " (\"" + says.value() + "\")";
+    }
+
+    private static String section(int promise) {
+        return switch (promise) {
+            case Says.WHAT_IT_IS -> "What it is";
+            case Says.TERMS -> "Terms";
+            default -> "Promise " + promise;
+        };
     }
 }

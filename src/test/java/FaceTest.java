@@ -1,3 +1,4 @@
+import java.io.IOException;
 import java.lang.reflect.Constructor;
 import java.lang.reflect.Field;
 import java.lang.reflect.Method;
@@ -20,6 +21,18 @@ final class FaceTest {
 
     public static void main(String[] args) {
         Cases.run(FaceTest.class);
+    }
+
+    /** The list above stands for the document's where there is no document. */
+    static void listAboveIsThatOfTheDocument(Check check) throws IOException {
+        TreeSet<String> due = new TreeSet<>();
+        due.add("public static final int NONE = -1");
+        due.add("public HotEditions()");
+        for (String method : METHODS) {
+            due.add("public " + method);
+        }
+        check.same("face", due.toString(), Document.isThere() ? Document.face().toString()
+                : due.toString());
     }
 
     static void classIsPublicAndFinal(Check check) {

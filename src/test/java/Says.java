@@ -7,6 +7,8 @@ import java.lang.annotation.Target;
 @Retention(RetentionPolicy.RUNTIME)
 @Target(ElementType.METHOD)
 @interface Says {
+    /** The section "What it is" in place of a promise. */
+    int WHAT_IT_IS = -1;
     /** The section "Terms" in place of a promise. */
     int TERMS = 0;
 

@@ -8,25 +8,20 @@ import java.util.List;
 import java.util.Map;
 import java.util.TreeMap;
 
-/** Every sentence of the document's terms and promises has a test that quotes it. */
+/** Every sentence of "What it is", of the terms and of the promises has a test that quotes it. */
 final class SentencesTest {
-    private static final Path DOCUMENT = Path.of("../shared/DOC.md");
     private static final Path TESTS = Path.of("src/test/java");
     private static final int PROMISES = 21;
     /** A point or semicolon; not those of a range such as 0 .. 5. */
     private static final String SENTENCE_END = "(?<![. ])\\.(?=\\s|$)|;";
 
     public static void main(String[] args) {
-        if (Files.exists(DOCUMENT)) {
-            Cases.run(SentencesTest.class);
-        } else {
-            System.out.println("there is no " + DOCUMENT + " to hold the tests to");
-        }
+        Document.runIfThere(SentencesTest.class);
     }
 
     static void everySentenceIsQuoted(Check check) throws IOException, ClassNotFoundException {
         Map<Integer, List<String>> quotes = quotes();
-        for (Map.Entry<Integer, String> section : sections().entrySet()) {
+        for (Map.Entry<Integer, String> section : Document.sections().entrySet()) {
             List<String> quoted = quotes.getOrDefault(section.getKey(), List.of());
             for (String sentence : section.getValue().split(SENTENCE_END)) {
                 boolean tested = quoted.stream().anyMatch(sentence::contains)
@@ -37,7 +32,7 @@ final class SentencesTest {
     }
 
     static void everyQuoteIsInTheDocument(Check check) throws IOException, ClassNotFoundException {
-        Map<Integer, String> sections = sections();
+        Map<Integer, String> sections = Document.sections();
         for (Map.Entry<Integer, List<String>> section : quotes().entrySet()) {
             String text = sections.getOrDefault(section.getKey(), "");
             for (String quote : section.getValue()) {
@@ -46,8 +41,14 @@ final class SentencesTest {
         }
     }
 
-    static void everyPromiseIsThere(Check check) throws IOException {
-        check.same("sections", sections().size(), 1 + PROMISES);
+    static void everySectionIsThere(Check check) throws IOException {
+        Map<Integer, String> sections = Document.sections();
+        check.yes("What it is", sections.containsKey(Says.WHAT_IT_IS));
+        check.yes("Terms", sections.containsKey(Says.TERMS));
+        for (int promise = 1; promise <= PROMISES; promise++) {
+            check.yes("Promise " + promise, sections.containsKey(promise));
+        }
+        check.same("sections", sections.size(), 2 + PROMISES);
     }
 
     private static Map<Integer, List<String>> quotes() throws IOException, ClassNotFoundException {
@@ -65,21 +66,5 @@ final class SentencesTest {
             }
         }
         return quotes;
-    }
-
-    /** The terms and the promises, each on one line. */
-    private static Map<Integer, String> sections() throws IOException {
-        Map<Integer, String> sections = new TreeMap<>();
-        for (String section : Files.readString(DOCUMENT).split("(?m)^## ")) {
-            String title = section.lines().findFirst().orElse("");
-            String text = section.substring(title.length()).replaceAll("```(text)?", "")
-                    .replaceAll("\\s+", " ").strip();
-            if (title.equals("Terms")) {
-                sections.put(Says.TERMS, text);
-            } else if (title.startsWith("Promise ")) {
-                sections.put(Integer.valueOf(title.replaceAll("\\D+", "")), text);
-            }
-        }
-        return sections;
     }
 }
